@@ -105,6 +105,11 @@ public final class BandTest {
         Due.is("19 not of the second card", y.is(1), 0);
         y.unweave();
         Due.is("19 unwoven", y.is(1), 1);
+        TurnedCards first = band(2);
+        first.thread(1, 2, 0);
+        first.thread(1, 3, 1);
+        first.pick(3, 0);
+        Due.is("19 not of the first card", first.is(1), 0);
     }
 
     private static void promise20() {

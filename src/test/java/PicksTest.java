@@ -251,6 +251,9 @@ public final class PicksTest {
         Due.is("16 the latest is as long", x.longest(0), 2);
         x.unweave();
         Due.is("16 unwoven", x.longest(1), 2);
+        TurnedCards y = band(1);
+        y.pick(0, 0);
+        Due.is("16 idle in pick 0", y.longest(0), 1);
         Due.is("16 no card", x.longest(3), UNKNOWN);
         Due.is("16 no card", x.longest(-1), UNKNOWN);
     }

@@ -20,8 +20,10 @@ public final class PicturesTest {
         promise30Refuses();
         promise31And32();
         promise33And34();
+        promise33Back();
         promise33Edges();
         promise35();
+        sixteenCards();
         Due.end();
     }
 
@@ -420,6 +422,21 @@ public final class PicturesTest {
         Due.is("34 instead of idle", x.wrong(0, 7), 31);
     }
 
+    private static void promise33Back() {
+        // Told BACK three times (2 3 0); the picture is of BACK, BACK, FORWARD (2 3 1).
+        TurnedCards x = column(2, 3, 1);
+        picks(x, 3, 0, 1);
+        Due.is("33 forward instead", x.wrongs(0), 1);
+        Due.is("34 forward instead", x.wrong(0, 0), 20);
+        // IDLE in pick 1: 2 2 3.
+        repaint(x, 2, 2, 3);
+        Due.is("34 idle instead", x.wrong(0, 0), 12);
+        // FORWARD in pick 0: 3 1 2.
+        repaint(x, 3, 1, 2);
+        Due.is("34 forward instead of the first", x.wrong(0, 0), 0);
+        Due.is("33 that alone", x.wrongs(0), 1);
+    }
+
     private static void promise33Edges() {
         TurnedCards x = new TurnedCards();
         x.cards(2);
@@ -479,5 +496,37 @@ public final class PicturesTest {
             x.thread(0, t, 7);
         }
         Due.is("35 one colour", x.count(4), 1);
+        x.flip(0);
+        Due.is("35 the first card is Z", x.count(3), 1);
+    }
+
+    /** The widest band, so that no call forgets the last card or looks behind it. */
+    private static void sixteenCards() {
+        TurnedCards x = new TurnedCards();
+        x.cards(16);
+        x.pack(15, 3);
+        x.paint(0, 15, 2);
+        x.paint(0, 0, 3);
+        x.paint(29, 15, 2);
+        Due.is("25 sixteen", x.rule(1, 0), 3);
+        Due.is("30 sixteen", x.weave(), 1);
+        Due.is("30 the last card", x.turn(0, 15), 1);
+        Due.is("26 sixteen", x.unlike(), 0);
+        Due.is("10 sixteen", x.packs(2, 2, 2, 1), 2);
+        Due.is("10 the last card", x.about(15, 2), 98);
+        Due.is("21 the last card", x.worst(true), 15);
+        Due.is("22 the last card", x.going(3, 0), 2);
+        Due.is("23 sixteen", x.evens(0), 2);
+        Due.is("18 sixteen", x.repeat(), 2);
+        Due.is("20 sixteen", x.rows(), 2);
+        Due.is("19 sixteen", x.is(0), 0);
+        Due.is("19 sixteen", x.is(1), 0);
+        Due.is("17 sixteen", x.many(0, 3), 15);
+        Due.is("35 sixteen", x.count(2), 3);
+        Due.is("11 sixteen", x.unweave(), 1);
+        Due.is("11 the last card", x.about(15, 2), 99);
+        x.paint(0, 15, 7);
+        Due.is("26 the last card", x.unlike(), 1);
+        Due.is("30 the last card has none", x.weave(), NONE);
     }
 }
