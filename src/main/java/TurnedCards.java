@@ -938,7 +938,7 @@ public final class TurnedCards {
 
         private void goOn(Card card, int turn) {
             if (turn == IDLE) {
-                run++;
+                run = Math.min(run + 1, MOST_FLOATS);
             } else {
                 turned = roundFrom(turned, turn);
                 place = turn;
