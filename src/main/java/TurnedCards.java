@@ -816,7 +816,7 @@ public final class TurnedCards {
     private static final class Planner {
         private static final int SHOWING_PLACES = 2, RUNS = MOST_FLOATS + 1;
         private static final int LIES = PLACES * SHOWING_PLACES * RUNS;
-        private static final int IMPOSSIBLE = 1000;
+        private static final int IMPOSSIBLE = 1000, BEYOND_TWIST = 1000;
         private static final int NO_MORE = MOST_ROWS;
 
         private final int[] fewest = new int[(MOST_ROWS + 1) * LIES];
@@ -860,8 +860,10 @@ public final class TurnedCards {
 
         private void fillEnd(int height) {
             int from = index(height, 0, 0, 0);
-            Arrays.fill(fewest, from, from + LIES, 0);
-            Arrays.fill(surplus, from, from + LIES, 1L << NO_MORE);
+            for (int lie = 0; lie < LIES; lie++) {
+                fewest[from + lie] = 0;
+                surplus[from + lie] = 1L << NO_MORE;
+            }
         }
 
         private void fillRow(Card card, int row, int floats) {
@@ -907,7 +909,7 @@ public final class TurnedCards {
 
         /** Both ways round may have the least size: then both are wanted, and the turns decide. */
         private void wantLeastTwist(Card card, long surpluses, int height) {
-            int least = Integer.MAX_VALUE;
+            int least = BEYOND_TWIST;
             wanted = 0;
             for (int more = -height; more <= height; more++) {
                 long bit = 1L << (NO_MORE + more);

@@ -23,7 +23,8 @@ public final class FaceTest {
     private static final String[] FORBIDDEN = {
         "\\bthrows?\\b", "\\btry\\b", "\\bcatch\\b", "\\bsynchronized\\b", "\\bassert\\b", "->", "::",
         "\\bprotected\\b", "Exact\\b", "\\bRandom\\b", "\\bSystem\\.(?!arraycopy)", "\\bpackage\\b",
-        "\\bstatic\\s*\\{", "\\bThread\\b", "\\bhashCode\\b", "\\btoString\\b", "[^\\x00-\\x7f]"
+        "\\bstatic\\s*\\{", "\\bThread\\b", "\\bhashCode\\b", "\\btoString\\b", "[^\\x00-\\x7f]",
+        "\\b(Integer|Long|Math)\\.[A-Z]"
     };
 
     public static void main(String[] args) throws Exception {
