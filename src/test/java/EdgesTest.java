@@ -79,37 +79,43 @@ public final class EdgesTest {
     /** 'So many CARDS, all as at first, nothing woven, no PICTURE (HEIGHT 1, FLOATS 3).' */
     private static void allAsAtFirst() {
         for (int n : new int[] {1, 4, 16}) {
-            TurnedCards used = band(16);
-            for (int c = 0; c < 16; c++) {
-                used.thread(c, c % 4, 7 - c % 8);
-                used.way(c, 1);
-                used.flip(c);
-                used.pack(c, 1 + c % 3);
-                used.paint(c, c, c % 8);
-                used.paint(29, c, 5);
-            }
-            used.rule(0, 30);
-            used.rule(1, 9);
-            picks(used, 60, 0x5555, 0xaaaa);
-            used.flip(15);
-            used.cards(n);
             Due.holds(n + " cards of a used object are as those of a new one: this",
-                    Whole.told(used).equals(Whole.told(band(n))));
+                    Whole.told(Whole.behind(EdgesTest::used, x -> x.cards(n))).equals(Whole.told(() -> band(n))));
         }
         Due.holds("a new object is as one of four cards: this",
-                Whole.told(new TurnedCards()).equals(Whole.told(band(4))));
+                Whole.told(TurnedCards::new).equals(Whole.told(() -> band(4))));
+    }
+
+    private static TurnedCards used() {
+        TurnedCards x = band(16);
+        for (int c = 0; c < 16; c++) {
+            x.thread(c, c % 4, 7 - c % 8);
+            x.way(c, 1);
+            x.flip(c);
+            x.pack(c, 1 + c % 3);
+            x.paint(c, c, c % 8);
+            x.paint(29, c, 5);
+        }
+        x.rule(0, 30);
+        x.rule(1, 9);
+        picks(x, 60, 0x5555, 0xaaaa);
+        x.flip(15);
+        return x;
     }
 
     /** 'TURN it FORWARD: what was at PLACE i is at PLACE i + 1, round; BACK: at PLACE i - 1, round.' */
     private static void fourThreadsRound() {
-        TurnedCards x = band(3);
-        int[][] forward = {{3, 0, 1, 2}, {2, 3, 0, 1}, {1, 2, 3, 0}, {0, 1, 2, 3}};
-        int[][] back = {{1, 2, 3, 0}, {2, 3, 0, 1}, {3, 0, 1, 2}, {0, 1, 2, 3}};
-        for (int p = 0; p < 60; p++) {
-            x.pick(1, 2);
-            Due.row("forward " + (p + 1), places(x, 0), forward[p % 4]);
-            Due.row("back " + (p + 1), places(x, 1), back[p % 4]);
-            Due.row("idle " + (p + 1), places(x, 2), 0, 1, 2, 3);
+        int[][][] round = {
+            {{3, 0, 1, 2}, {2, 3, 0, 1}, {1, 2, 3, 0}, {0, 1, 2, 3}},
+            {{1, 2, 3, 0}, {2, 3, 0, 1}, {3, 0, 1, 2}, {0, 1, 2, 3}},
+            {{0, 1, 2, 3}, {0, 1, 2, 3}, {0, 1, 2, 3}, {0, 1, 2, 3}}};
+        String[] names = {"forward ", "back ", "idle "};
+        for (int card = 0; card < 3; card++) {
+            TurnedCards x = band(3);
+            for (int p = 0; p < 60; p++) {
+                x.pick(1, 2);
+                Due.row(names[card] + (p + 1), places(x, card), round[card][p % 4]);
+            }
         }
     }
 
@@ -342,17 +348,22 @@ public final class EdgesTest {
 
     /** 'UNWOVEN: the latest PICK is taken back; all is as it was ahead of that PICK.' From 60 down. */
     private static void unwovenFromFull() {
-        for (int left = 0; left < 60; left += 7) {
-            TurnedCards x = alternating(60);
-            unweave(x, 60 - left);
+        for (int l = 0; l < 60; l += 7) {
+            int left = l;
             Due.holds(left + " picks are left, and nothing of those behind: this",
-                    Whole.told(x).equals(Whole.told(alternating(left))));
+                    Whole.told(() -> unwoven(60 - left)).equals(Whole.told(() -> alternating(left))));
         }
         TurnedCards full = alternating(60);
         Due.is("fifty-nine are left", full.unweave(), 59);
         Due.is("no pick 59", full.turn(59, 0), UNKNOWN);
         Due.is("there is room for one", full.pick(0, 0), 60);
         Due.is("and not for two", full.pick(0, 0), FULL);
+    }
+
+    private static TurnedCards unwoven(int times) {
+        TurnedCards x = alternating(60);
+        unweave(x, times);
+        return x;
     }
 
     private static TurnedCards alternating(int picks) {

@@ -30,6 +30,11 @@ public final class FaceTest {
     public static void main(String[] args) throws Exception {
         checkMethods();
         checkFieldsAndConstructor();
+        checkSizes(TurnedCards.class);
+        for (Class<?> inside : TurnedCards.class.getDeclaredClasses()) {
+            checkSizes(inside);
+        }
+        Due.holds("LANGUAGE.md: some twelve classes at most", TurnedCards.class.getDeclaredClasses().length < 12);
         checkText(Files.readString(Path.of("src/main/java/TurnedCards.java")));
         Due.end();
     }
@@ -90,7 +95,32 @@ public final class FaceTest {
                 && Modifier.isFinal(TurnedCards.class.getModifiers()));
     }
 
+    private static void checkSizes(Class<?> one) {
+        int fields = 0;
+        for (Field f : one.getDeclaredFields()) {
+            fields += Modifier.isStatic(f.getModifiers()) ? 0 : 1;
+        }
+        Due.holds("LANGUAGE.md: some twenty fields at most, " + one + " has " + fields, fields <= 20);
+        for (Method m : one.getDeclaredMethods()) {
+            Due.holds("LANGUAGE.md: seven parameters at most, " + m, m.getParameterCount() <= 7);
+        }
+    }
+
+    /** A method begins with a line that ends in ') {' and ends with the next brace that stands as far in. */
+    private static void checkLengths(String text) {
+        Matcher m = Pattern.compile("(?m)^( {4}| {8})(?:\\w[^\n;]*)\\) \\{\n((?s:.*?))^\\1\\}$").matcher(text);
+        int methods = 0;
+        while (m.find()) {
+            methods++;
+            long lines = m.group().lines().count();
+            Due.holds("LANGUAGE.md: some sixty lines at most, " + m.group().lines().findFirst().orElse(""),
+                    lines <= 60);
+        }
+        Due.holds("methods were found: this", methods >= FACE.length);
+    }
+
     private static void checkText(String text) {
+        checkLengths(text);
         String code = text.replaceAll("(?s)/\\*.*?\\*/", "").replaceAll("//[^\n]*", "");
         for (String word : FORBIDDEN) {
             Matcher m = Pattern.compile(word).matcher(code);

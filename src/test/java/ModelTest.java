@@ -1,8 +1,32 @@
+import java.util.Map;
 import java.util.Random;
+import java.util.Set;
+import java.util.TreeMap;
+import java.util.TreeSet;
+import java.util.function.ToIntFunction;
 
-/** Random runs of calls, each answer held against PlainBand. The seeds are fixed. */
+/**
+ * 'An object is used for at most 512 calls': random runs of 512 calls of all kinds, each answer
+ * held against PlainBand. The seeds are fixed. At the end each call must have been answered in
+ * each way that its promise names, and in no other.
+ */
 public final class ModelTest {
-    private static final int RUNS = 500, CALLS = 500;
+    private static final int RUNS = 900, CALLS = 512, TOO_MANY = 20;
+    private static final int NONE = TurnedCards.NONE;
+
+    /** By call: 'plain' is an answer that is neither a refusal nor NONE. */
+    private static final String[] WAYS = {
+        "cards plain BAD", "thread plain UNKNOWN BAD STATE", "way plain UNKNOWN BAD STATE", "flip plain UNKNOWN",
+        "pack plain UNKNOWN", "about plain UNKNOWN BAD", "at plain UNKNOWN BAD", "pick plain BAD FULL",
+        "packs plain BAD FULL", "unweave plain STATE", "turn plain UNKNOWN", "shows plain UNKNOWN",
+        "shown plain UNKNOWN", "slant plain UNKNOWN", "longest plain UNKNOWN", "many plain UNKNOWN BAD",
+        "repeat plain", "is plain BAD", "rows plain", "worst plain", "going plain NONE UNKNOWN BAD STATE FULL",
+        "evens plain NONE BAD", "paint plain NONE UNKNOWN BAD", "rule plain BAD", "unlike plain",
+        "idles plain NONE UNKNOWN", "turning plain NONE UNKNOWN BAD", "behind plain NONE UNKNOWN",
+        "weave plain NONE FULL", "threading plain NONE UNKNOWN STATE", "quarrel plain NONE UNKNOWN",
+        "wrongs plain UNKNOWN STATE", "wrong plain NONE UNKNOWN STATE", "count plain BAD"
+    };
+    private static final Map<String, Set<String>> ANSWERED = new TreeMap<>();
 
     private final Random random;
     private final TurnedCards x = new TurnedCards();
@@ -10,61 +34,96 @@ public final class ModelTest {
     private final int run;
     private final int palette;
     private final int idleOften;
+    private final int weaveOften;
     private final int mostHeight;
+    private final boolean flips;
     private int n = 4;
+    private int calls = 0;
 
     private ModelTest(int run) {
         this.run = run;
         random = new Random(run);
         palette = 1 + random.nextInt(4);
         idleOften = random.nextInt(10);
+        weaveOften = 15 + random.nextInt(40);
         mostHeight = run % 25 == 0 ? 30 : 1 + random.nextInt(7);
+        flips = run % 5 != 0;
     }
 
     public static void main(String[] args) {
-        for (int run = 0; run < RUNS && Due.wrongs() < 20; run++) {
+        for (int run = 0; run < RUNS && Due.wrongs() < TOO_MANY; run++) {
             new ModelTest(run).play();
         }
+        for (String call : WAYS) {
+            String name = call.substring(0, call.indexOf(' '));
+            Set<String> ways = new TreeSet<>(Set.of(call.substring(name.length() + 1).split(" ")));
+            Set<String> answered = ANSWERED.getOrDefault(name, Set.of());
+            Due.holds(name + " was answered in the ways " + ways + ": " + answered, answered.equals(ways));
+        }
+        Due.is("calls that were made", ANSWERED.size(), WAYS.length);
         Due.end();
     }
 
     private void play() {
-        newBand();
-        int kind = run % 5;
-        for (int call = 0; call < CALLS && Due.wrongs() < 20; call++) {
+        if (run % 10 != 3) {
+            newBand();
+        }
+        while (calls < CALLS && Due.wrongs() < TOO_MANY) {
             int dice = random.nextInt(100);
-            if (dice < 25) {
-                weaveSome(kind);
-            } else if (dice < 40) {
+            if (dice < weaveOften) {
+                weaveSome();
+            } else if (dice < weaveOften + 15) {
                 paintSome();
-            } else if (dice < 43) {
+            } else if (dice < weaveOften + 18) {
                 changeCards();
+            } else if (dice < weaveOften + 20) {
+                askAllOf(random.nextInt(n));
             } else {
                 ask();
             }
-            if (call % 100 == 99) {
-                sayAll();
-            }
         }
+    }
+
+    /** The one door to both bands: no object is asked more often than the document allows. */
+    private void due(String call, ToIntFunction<TurnedCards> ofX, ToIntFunction<PlainBand> ofY) {
+        if (calls == CALLS) {
+            return;
+        }
+        calls++;
+        int got = ofX.applyAsInt(x);
+        Due.is("run " + run + ", call " + calls + ": " + call, got, ofY.applyAsInt(y));
+        ANSWERED.computeIfAbsent(call.split(" ")[0], name -> new TreeSet<>()).add(wayOf(got));
+    }
+
+    /** A going of -1 to -4 is told as if it were a refusal: RefusalsTest looks at those of it. */
+    private static String wayOf(int answer) {
+        String[] refusals = {"UNKNOWN", "BAD", "STATE", "FULL"};
+        if (answer == NONE) {
+            return "NONE";
+        }
+        return answer < 0 && answer >= -4 ? refusals[-1 - answer] : "plain";
     }
 
     private void newBand() {
         int most = mostHeight > 7 ? 2 : 6;
-        n = run % 50 == 7 ? 16 : 1 + random.nextInt(most);
-        due("cards " + n, x.cards(n), y.cards(n));
+        int wanted = run % 50 == 7 ? 16 : 1 + random.nextInt(most);
+        if (calls == CALLS) {
+            return;
+        }
+        due("cards " + wanted, b -> b.cards(wanted), b -> b.cards(wanted));
+        n = wanted;
         for (int c = 0; c < n; c++) {
             for (int t = 0; t < 4; t++) {
-                int col = random.nextInt(palette);
-                due("thread", x.thread(c, t, col), y.thread(c, t, col));
+                recolour(c, t, random.nextInt(palette));
             }
         }
-        int h = 1 + random.nextInt(mostHeight);
-        due("rule", x.rule(0, h), y.rule(0, h));
+        rule(0, 1 + random.nextInt(mostHeight));
     }
 
+    /** Now and then a value just outside of what is taken, or far from it. */
     private int odd(int least, int most) {
         if (random.nextInt(40) == 0) {
-            int[] far = {least - 1, most + 1, Integer.MIN_VALUE, Integer.MAX_VALUE, -99};
+            int[] far = {least - 1, most + 1, Integer.MIN_VALUE, Integer.MAX_VALUE, NONE};
             return far[random.nextInt(far.length)];
         }
         return least + random.nextInt(Math.max(1, most - least + 1));
@@ -75,39 +134,57 @@ public final class ModelTest {
     }
 
     private int pickNumber() {
-        return odd(0, x.count(1) - 1);
+        return odd(0, y.count(1) - 1);
     }
 
-    private void weaveSome(int kind) {
+    // ---- calls that change something
+
+    private void recolour(int card, int thread, int colour) {
+        due("thread " + card + " " + thread + " " + colour,
+                b -> b.thread(card, thread, colour), b -> b.thread(card, thread, colour));
+    }
+
+    private void rule(int what, int v) {
+        due("rule " + what + " " + v, b -> b.rule(what, v), b -> b.rule(what, v));
+    }
+
+    private void paint(int row, int card, int colour) {
+        due("paint " + row + " " + card + " " + colour,
+                b -> b.paint(row, card, colour), b -> b.paint(row, card, colour));
+    }
+
+    private void weaveSome() {
         int dice = random.nextInt(20);
         if (dice < 8) {
-            int f = 0;
-            int b = 0;
-            for (int c = 0; c < n; c++) {
-                if (random.nextInt(10) >= idleOften) {
-                    int bit = 1 << c;
-                    if (random.nextInt(3) > 0) {
-                        f |= bit;
-                    } else {
-                        b |= bit;
-                    }
-                }
-            }
-            if (random.nextInt(40) == 0) {
-                f |= 1 << random.nextInt(32);
-            }
-            due("pick " + f + " " + b, x.pick(f, b), y.pick(f, b));
+            pickSome();
         } else if (dice < 12) {
             int[] t = {odd(0, 2), odd(0, 2), odd(0, 2), odd(0, 2)};
-            due("packs", x.packs(t[0], t[1], t[2], t[3]), y.packs(t[0], t[1], t[2], t[3]));
+            due("packs", b -> b.packs(t[0], t[1], t[2], t[3]), b -> b.packs(t[0], t[1], t[2], t[3]));
         } else if (dice < 14) {
-            due("weave", x.weave(), y.weave());
+            due("weave", b -> b.weave(), b -> b.weave());
         } else if (dice < 18) {
-            due("unweave", x.unweave(), y.unweave());
-        } else if (kind != 0) {
+            due("unweave", b -> b.unweave(), b -> b.unweave());
+        } else if (flips) {
             int c = card();
-            due("flip " + c, x.flip(c), y.flip(c));
+            due("flip " + c, b -> b.flip(c), b -> b.flip(c));
         }
+    }
+
+    private void pickSome() {
+        int forward = 0;
+        int back = 0;
+        for (int c = 0; c < n; c++) {
+            if (random.nextInt(10) >= idleOften) {
+                if (random.nextInt(3) > 0) {
+                    forward |= 1 << c;
+                } else {
+                    back |= 1 << c;
+                }
+            }
+        }
+        int f = random.nextInt(40) == 0 ? forward | 1 << random.nextInt(32) : forward;
+        int g = random.nextInt(40) == 0 ? back | 1 << random.nextInt(32) : back;
+        due("pick " + f + " " + g, b -> b.pick(f, g), b -> b.pick(f, g));
     }
 
     private void paintSome() {
@@ -115,27 +192,22 @@ public final class ModelTest {
         if (dice < 5) {
             copyWoven();
         } else if (dice < 15) {
-            int r = random.nextInt(3) == 0 ? odd(0, 29) : odd(0, mostHeight - 1);
-            int c = card();
-            int col = random.nextInt(3) == 0 ? -99 : odd(0, palette - 1);
-            due("paint " + r + " " + c + " " + col, x.paint(r, c, col), y.paint(r, c, col));
+            int row = random.nextInt(3) == 0 ? odd(0, 29) : odd(0, mostHeight - 1);
+            paint(row, card(), random.nextInt(3) == 0 ? NONE : odd(0, palette - 1));
         } else if (dice < 18) {
-            int h = odd(1, mostHeight);
-            due("rule 0 " + h, x.rule(0, h), y.rule(0, h));
+            rule(0, odd(1, mostHeight));
         } else {
             int what = odd(0, 1);
-            int v = what == 0 ? odd(1, mostHeight) : odd(0, 9);
-            due("rule " + what + " " + v, x.rule(what, v), y.rule(what, v));
+            rule(what, what == 0 ? odd(1, mostHeight) : odd(0, 9));
         }
     }
 
     /** So that pictures are often those of a band, with few turns of it otherwise. */
     private void copyWoven() {
         int c = random.nextInt(n);
-        int rows = Math.min(x.count(1), mostHeight);
+        int rows = Math.min(y.count(1), mostHeight);
         for (int r = 0; r < rows; r++) {
-            int col = x.shows(r, c, false);
-            due("paint", x.paint(r, c, col), y.paint(r, c, col));
+            paint(r, c, y.shows(r, c, false));
         }
     }
 
@@ -144,80 +216,106 @@ public final class ModelTest {
         int dice = random.nextInt(100);
         if (dice < 40) {
             int p = odd(0, 3);
-            due("pack " + c + " " + p, x.pack(c, p), y.pack(c, p));
+            due("pack " + c + " " + p, b -> b.pack(c, p), b -> b.pack(c, p));
         } else if (dice < 65) {
             int w = odd(0, 1);
-            due("way " + c + " " + w, x.way(c, w), y.way(c, w));
+            due("way " + c + " " + w, b -> b.way(c, w), b -> b.way(c, w));
         } else if (dice < 95) {
-            int t = odd(0, 3);
-            int col = odd(0, palette - 1);
-            due("thread " + c + " " + t + " " + col, x.thread(c, t, col), y.thread(c, t, col));
+            recolour(c, odd(0, 3), odd(0, palette - 1));
         } else if (dice < 97) {
             newBand();
         } else {
             int bad = random.nextBoolean() ? 0 : 17;
-            due("cards " + bad, x.cards(bad), y.cards(bad));
+            due("cards " + bad, b -> b.cards(bad), b -> b.cards(bad));
         }
     }
+
+    // ---- calls that only ask
 
     private void ask() {
         int c = card();
-        int p = pickNumber();
-        boolean back = random.nextBoolean();
-        int i;
-        switch (random.nextInt(27)) {
-            case 0: i = odd(0, 4); due("about " + c + " " + i, x.about(c, i), y.about(c, i)); break;
-            case 1: i = odd(0, 3); due("at " + c + " " + i, x.at(c, i), y.at(c, i)); break;
-            case 2: due("turn", x.turn(p, c), y.turn(p, c)); break;
-            case 3: due("shows", x.shows(p, c, back), y.shows(p, c, back)); break;
-            case 4: due("shown", x.shown(p, c, back), y.shown(p, c, back)); break;
-            case 5: due("slant", x.slant(p, c), y.slant(p, c)); break;
-            case 6: due("longest", x.longest(c), y.longest(c)); break;
-            case 7: i = odd(0, 7); due("many", x.many(p, i), y.many(p, i)); break;
-            case 8: due("repeat", x.repeat(), y.repeat()); break;
-            case 9: i = odd(0, 1); due("is " + i, x.is(i), y.is(i)); break;
-            case 10: due("rows", x.rows(), y.rows()); break;
-            case 11: due("worst", x.worst(back), y.worst(back)); break;
-            case 12: i = odd(0, 3); askGoing(i); break;
-            case 13: i = limit(); due("evens " + i, x.evens(i), y.evens(i)); break;
-            case 14: due("unlike", x.unlike(), y.unlike()); break;
-            case 15: case 16: due("idles " + c, x.idles(c), y.idles(c)); break;
-            case 17: case 18: i = odd(0, mostHeight - 1); due("turning " + c + " " + i, x.turning(c, i), y.turning(c, i)); break;
-            case 19: case 20: due("behind " + c, x.behind(c), y.behind(c)); break;
-            case 21: i = odd(0, 3); due("threading " + c + " " + i, x.threading(c, i), y.threading(c, i)); break;
-            case 22: due("quarrel", x.quarrel(c), y.quarrel(c)); break;
-            case 23: due("wrongs", x.wrongs(c), y.wrongs(c)); break;
-            case 24: case 25: i = odd(0, 5); due("wrong " + c + " " + i, x.wrong(c, i), y.wrong(c, i)); break;
-            default: i = odd(0, 4); due("count " + i, x.count(i), y.count(i)); break;
+        switch (random.nextInt(8)) {
+            case 0: askOfCard(c); break;
+            case 1: case 2: askOfPick(pickNumber(), c, random.nextBoolean()); break;
+            case 3: askOfBand(); break;
+            case 4: askOfEvens(odd(0, 3), random.nextInt(4) == 0 ? odd(0, 60) : odd(0, 4)); break;
+            case 5: case 6: askOfPlans(c, odd(0, mostHeight - 1)); break;
+            default: askOfThreading(c, odd(0, 3), odd(0, 5)); break;
         }
     }
 
-    private int limit() {
-        return random.nextInt(4) == 0 ? odd(0, 60) : odd(0, 4);
-    }
-
-    private void askGoing(int pack) {
-        int most = limit();
-        due("going " + pack + " " + most, x.going(pack, most), y.going(pack, most));
-    }
-
-    /** All that may be asked of each card, so that nothing that went wrong stays hidden. */
-    private void sayAll() {
-        for (int c = 0; c < n; c++) {
-            for (int i = 0; i <= 4; i++) {
-                due("about", x.about(c, i), y.about(c, i));
-                due("at", x.at(c, i), y.at(c, i));
-            }
-            for (int p = 0; p < x.count(1); p++) {
-                due("turn", x.turn(p, c), y.turn(p, c));
-                due("shown", x.shown(p, c, false), y.shown(p, c, false));
-                due("shown back", x.shown(p, c, true), y.shown(p, c, true));
-                due("slant", x.slant(p, c), y.slant(p, c));
-            }
+    private void askOfCard(int c) {
+        int what = odd(0, 4);
+        int place = odd(0, 3);
+        switch (random.nextInt(3)) {
+            case 0: due("about " + c + " " + what, b -> b.about(c, what), b -> b.about(c, what)); break;
+            case 1: due("at " + c + " " + place, b -> b.at(c, place), b -> b.at(c, place)); break;
+            default: due("longest " + c, b -> b.longest(c), b -> b.longest(c)); break;
         }
     }
 
-    private void due(String call, int got, int want) {
-        Due.is("run " + run + ": " + call, got, want);
+    private void askOfPick(int p, int c, boolean back) {
+        int colour = odd(0, 7);
+        String of = " " + p + " " + c;
+        switch (random.nextInt(5)) {
+            case 0: due("turn" + of, b -> b.turn(p, c), b -> b.turn(p, c)); break;
+            case 1: due("shows" + of, b -> b.shows(p, c, back), b -> b.shows(p, c, back)); break;
+            case 2: due("shown" + of, b -> b.shown(p, c, back), b -> b.shown(p, c, back)); break;
+            case 3: due("slant" + of, b -> b.slant(p, c), b -> b.slant(p, c)); break;
+            default: due("many " + p + " " + colour, b -> b.many(p, colour), b -> b.many(p, colour)); break;
+        }
+    }
+
+    private void askOfBand() {
+        int what = odd(0, 4);
+        int which = odd(0, 1);
+        boolean card = random.nextBoolean();
+        switch (random.nextInt(6)) {
+            case 0: due("repeat", b -> b.repeat(), b -> b.repeat()); break;
+            case 1: due("is " + which, b -> b.is(which), b -> b.is(which)); break;
+            case 2: due("rows", b -> b.rows(), b -> b.rows()); break;
+            case 3: due("worst", b -> b.worst(card), b -> b.worst(card)); break;
+            case 4: due("unlike", b -> b.unlike(), b -> b.unlike()); break;
+            default: due("count " + what, b -> b.count(what), b -> b.count(what)); break;
+        }
+    }
+
+    private void askOfEvens(int pack, int limit) {
+        if (random.nextBoolean()) {
+            due("going " + pack + " " + limit, b -> b.going(pack, limit), b -> b.going(pack, limit));
+        } else {
+            due("evens " + limit, b -> b.evens(limit), b -> b.evens(limit));
+        }
+    }
+
+    private void askOfPlans(int c, int i) {
+        switch (random.nextInt(3)) {
+            case 0: due("idles " + c, b -> b.idles(c), b -> b.idles(c)); break;
+            case 1: due("turning " + c + " " + i, b -> b.turning(c, i), b -> b.turning(c, i)); break;
+            default: due("behind " + c, b -> b.behind(c), b -> b.behind(c)); break;
+        }
+    }
+
+    private void askOfThreading(int c, int thread, int i) {
+        switch (random.nextInt(4)) {
+            case 0: due("threading " + c + " " + thread, b -> b.threading(c, thread), b -> b.threading(c, thread)); break;
+            case 1: due("quarrel " + c, b -> b.quarrel(c), b -> b.quarrel(c)); break;
+            case 2: due("wrongs " + c, b -> b.wrongs(c), b -> b.wrongs(c)); break;
+            default: due("wrong " + c + " " + i, b -> b.wrong(c, i), b -> b.wrong(c, i)); break;
+        }
+    }
+
+    /** How a card lies and what the latest pick did to it, so that little of what went wrong stays hidden. */
+    private void askAllOf(int c) {
+        int latest = y.count(1) - 1;
+        for (int i = 0; i <= 4; i++) {
+            int what = i;
+            due("about " + c + " " + what, b -> b.about(c, what), b -> b.about(c, what));
+            due("at " + c + " " + what, b -> b.at(c, what), b -> b.at(c, what));
+        }
+        due("turn", b -> b.turn(latest, c), b -> b.turn(latest, c));
+        due("shown front", b -> b.shown(latest, c, false), b -> b.shown(latest, c, false));
+        due("shown back", b -> b.shown(latest, c, true), b -> b.shown(latest, c, true));
+        due("slant", b -> b.slant(latest, c), b -> b.slant(latest, c));
     }
 }

@@ -211,19 +211,27 @@ public final class PictureEdgesTest {
 
     /** 'A PICTURE: rows 0 .. 29, of each CARD a COLOUR, or NONE: any (all at first).' */
     private static void pictureOfThirtyRows() {
-        TurnedCards x = band(16);
+        TurnedCards all = band(16);
+        paintAll(all, 0, 16);
+        Due.is("all are painted", all.count(2), 480);
+        for (int from = 0; from < 16; from += 8) {
+            TurnedCards x = band(16);
+            paintAll(x, from, from + 8);
+            for (int r = 0; r < 30; r++) {
+                for (int c = from; c < from + 8; c++) {
+                    Due.is("what was", x.paint(r, c, NONE), (r + c) % 8);
+                }
+            }
+            Due.is("any again", x.count(2), 0);
+        }
+    }
+
+    private static void paintAll(TurnedCards x, int from, int to) {
         for (int r = 0; r < 30; r++) {
-            for (int c = 0; c < 16; c++) {
+            for (int c = from; c < to; c++) {
                 Due.is("any at first", x.paint(r, c, (r + c) % 8), NONE);
             }
         }
-        Due.is("all are painted", x.count(2), 480);
-        for (int r = 0; r < 30; r++) {
-            for (int c = 0; c < 16; c++) {
-                Due.is("what was", x.paint(r, c, NONE), (r + c) % 8);
-            }
-        }
-        Due.is("any again", x.count(2), 0);
     }
 
     /** 'HEIGHT: how many rows are looked at (1 .. 30; 1 at first).' */
@@ -259,9 +267,10 @@ public final class PictureEdgesTest {
 
     /** 'In its first rows (HEIGHT, as far as there are PICKS), each row by itself.' */
     private static void heightOfUnlike() {
-        TurnedCards x = band(16);
+        int n = 5;
+        TurnedCards x = band(n);
         for (int r = 0; r < 30; r++) {
-            for (int c = 0; c < 16; c++) {
+            for (int c = 0; c < n; c++) {
                 x.paint(r, c, 7);
             }
         }
@@ -270,19 +279,19 @@ public final class PictureEdgesTest {
             Due.is("nothing woven", x.unlike(), 0);
         }
         for (int p = 1; p <= 60; p++) {
-            x.pick(0xffff, 0);
-            Due.is("picks " + p, x.unlike(), 16 * Math.min(p, 30));
+            x.pick(31, 0);
+            Due.is("picks " + p, x.unlike(), n * Math.min(p, 30));
         }
         for (int height = 1; height <= 30; height++) {
             x.rule(0, height);
-            Due.is("height " + height, x.unlike(), 16 * height);
+            Due.is("height " + height, x.unlike(), n * height);
         }
-        for (int c = 0; c < 16; c++) {
-            x.paint(29, c, c == 15 ? 7 : NONE);
+        for (int c = 0; c < n; c++) {
+            x.paint(29, c, c == n - 1 ? 7 : NONE);
         }
-        Due.is("any is not unlike, in the last row", x.unlike(), 16 * 29 + 1);
-        x.paint(29, 15, 2);
-        Due.is("nor what it shows (29 forward and one: thread 2)", x.unlike(), 16 * 29);
+        Due.is("any is not unlike, in the last row", x.unlike(), n * 29 + 1);
+        x.paint(29, n - 1, 2);
+        Due.is("nor what it shows (29 forward and one: thread 2)", x.unlike(), n * 29);
     }
 
     /** 'By the THREADS that PICKS 0, 1, .. (HEIGHT of them at most) SHOW.' */

@@ -30,7 +30,7 @@ public final class RefusalsTest {
         n = x.count(0);
         picks = x.count(1);
         height = x.rule(0, 1);
-        asMade = Whole.told(made.get());
+        asMade = Whole.told(made);
     }
 
     public static void main(String[] args) {
@@ -249,14 +249,14 @@ public final class RefusalsTest {
     }
 
     private void one(String what, int value, boolean taken, int refusal, Open call) {
-        TurnedCards x = made.get();
-        int answer = call.call(x, value);
+        int answer = call.call(made.get(), value);
         String where = kind + ": " + what;
         if (taken) {
             Due.holds(where + " is taken, answered " + answer + ": this", answer != UNKNOWN && answer != BAD);
         } else {
             Due.is(where, answer, refusal);
-            Due.holds(where + " is refused and changes nothing: this", Whole.told(x).equals(asMade));
+            String behind = Whole.told(Whole.behind(made, x -> call.call(x, value)));
+            Due.holds(where + " is refused and changes nothing: this", behind.equals(asMade));
         }
     }
 
